@@ -6,6 +6,7 @@ public final class EventsBookTest {
         event();
         eventIsFull();
         after();
+        handsAreByFew();
         afterIsOfNow();
         afterToItself();
         book();
@@ -97,6 +98,15 @@ public final class EventsBookTest {
         }
         x.event(-1, 0);
         after(x, "none again", 4, 1, 3);
+    }
+
+    private static void handsAreByFew() {
+        HandRelay x = new HandRelay();
+        x.meet(1, 0, 1, 100);
+        x.meet(3, 1, 2, 100);
+        x.meet(9, 0, 2, 5);
+        x.ask(0, 2, 0);
+        after(x, "neither EARLY nor SUREST", 3, 1, 2);
     }
 
     private static void afterIsOfNow() {

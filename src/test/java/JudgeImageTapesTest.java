@@ -90,7 +90,11 @@ public final class JudgeImageTapesTest {
         fill(x, 0, 0, 1, 4);
         Check.due("too early by 1", x.judge(0, 0), 2);
         fill(x, 0, 0, 3);
-        Check.due("to one who had it", x.judge(0, 0), 1);
+        Check.due("to FROM again", x.judge(0, 0), 1);
+        x.renew(4, 0, 9);
+        x.meet(99, 2, 1, 10);
+        fill(x, 0, 0, 1, 7);
+        Check.due("to one who had it", x.judge(0, 0), 2);
         x.ask(0, 3, 3);
         fill(x, 0, 0, 1);
         Check.due("ahead of START", x.judge(0, 0), 0);
@@ -151,7 +155,7 @@ public final class JudgeImageTapesTest {
         x.renew(0, 0, 50);
         x.renew(1, 1, 99);
         x.see(-1, 0, true);
-        x.see(0, 0, false);
+        x.see(1, 0, false);
         x.event(-1, 0);
         x.event(3, 0);
         x.event(3, 99);
@@ -178,6 +182,9 @@ public final class JudgeImageTapesTest {
         Check.due("FITS", x.fits(0), 2);
         Check.due("EVENTS", x.count(1), 1);
         Check.due("AFTER", x.after(0), -5);
+        x.renew(1, 0, 4);
+        Check.due("AFTER, as DELAY is 3", x.after(0), 4);
+        x.undo();
         Check.due("the BOOK", x.count(2), 2);
         Check.due("LOOKED at", x.looked(), 1);
         Check.due("THE TEXT isn't in it", x.count(3), 1);

@@ -75,6 +75,10 @@ public final class TextTest {
         Check.due("as it was", x.told(0), 3);
         Check.due("meet", Check.read(x, "meet 1 0 0 5;meet 1 0 3 5;meet 1 0 1 0;meet 1 0 1 101;meet 1 0 1 999"), 0);
         Check.due("none came", x.told(11), 0);
+        Check.due("drop 1 of 2", Check.read(x, "meet 1 0 1 5;meet 1 0 1 5;drop 1"), 3);
+        Check.due("0 is there", x.meeting(0, 0), 1);
+        Check.due("1 is DROPPED", x.meeting(1, 0), -11);
+        x.people(3);
         Check.due("drop", Check.read(x, "drop 0;meet 1 0 1 5;drop 0;drop 0;drop 99"), 2);
         Check.due("ask", Check.read(x, "ask 0 3 0;ask 9 0 0;ask 1 1 1"), 1);
         Check.due("from", x.told(3), 1);
@@ -92,6 +96,7 @@ public final class TextTest {
             "meet 1", "meet 1 ", "meet 1 2 3", "meet 1 2 3 ", "meet 1 2 3 4 ", "meet 12 12", "meet 1;", "meet;",
             "ask 1 2", "ask 1 2 3 4", "ask -1 2 3", "drop", "drop 1a", "peopl 4", "peoplee 4", "people.4",
             "delay 1;delay 2;delay q;xxx", "delay 1;foo;delay q", "delay 1\n", "delay\t1", "5", "people 4;;ask 0 1 1",
+            "xelay 1", "dxlay 1", "delax 1", "askz", "aska", "ask`", "ask{", "delay 1;askz 0 1 1", "delay /", "delay :",
             "delay\u00001", "ask 1 2 3;delay 4;dr", "meet 1 0 1 5;meet 1 0 1 5;me",
         };
         int[] due = {
@@ -100,6 +105,7 @@ public final class TextTest {
             6, 7, 10, 11, 12, 9, 6, 4,
             7, 9, 4, 4, 6, 0, 0, 6,
             22, 8, 7, 5, 0, 9,
+            0, 0, 0, 0, 0, 3, 3, 8, 6, 6,
             5, 18, 26,
         };
         for (int t = 0; t < texts.length; t++) {

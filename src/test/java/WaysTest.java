@@ -10,6 +10,8 @@ public final class WaysTest {
         tiesByNumbers();
         timesAndDelay();
         nobodyHoldsItTwice();
+        timeNought();
+        eachCallLooksAnew();
         surenessOfFiveHands();
         refusals();
         reachByAndRank();
@@ -202,6 +204,72 @@ public final class WaysTest {
         Check.due("0 1 twice, 0 2 1", x.told(6), 3);
         way(x, EARLY, 1, 0);
         Check.due("0 2 straight and by 1 twice", x.ask(0, 2, 0), 3);
+        x.people(4);
+        x.meet(1, 0, 1, 10);
+        x.meet(3, 1, 2, 10);
+        x.meet(5, 2, 1, 10);
+        x.meet(7, 1, 3, 10);
+        Check.due("not 0 1 2 1 3", x.ask(0, 3, 0), 1);
+    }
+
+    /** A TIME of 0 is a TIME like others, not a sign that there is none. */
+    private static void timeNought() {
+        HandRelay x = new HandRelay();
+        x.delay(0);
+        x.meet(0, 0, 1, 10);
+        x.meet(0, 1, 2, 10);
+        x.meet(5, 0, 2, 10);
+        x.ask(0, 2, 0);
+        Check.due("reach", x.reach(2), 0);
+        Check.due("by 1", x.by(1), 5);
+        Check.due("by 2", x.by(2), 0);
+        Check.due("rank 0", x.rank(0), 2);
+        Check.due("rank 2", x.rank(2), 0);
+        Check.due("who has a REACH", x.told(10), 7);
+        Check.due("mean", x.mean(0), 0);
+        way(x, EARLY, 0, 0, 1);
+        x.drop(2);
+        Check.due("cut 0", x.cut(0), 0);
+        Check.due("cut 2", x.cut(2), 1);
+        Check.due("LATEST", x.told(7), 0);
+        Check.due("odds", x.odds(0), 0);
+        x.meet(0, 2, 1, 10);
+        Check.due("odds above", x.odds(0), 2);
+        Check.due("odds below", x.odds(1), 3);
+        x.meet(5, 0, 1, 10);
+        x.meet(6, 2, 1, 10);
+        x.meet(7, 0, 2, 10);
+        x.ask(0, 1, 0);
+        Check.due("by 1, a later one behind it", x.by(1), 0);
+        Check.due("by 2, more hands later", x.by(2), 0);
+    }
+
+    /** What one call asked isn't kept for another. */
+    private static void eachCallLooksAnew() {
+        HandRelay x = new HandRelay();
+        x.meet(3, 0, 1, 30);
+        x.meet(4, 1, 2, 40);
+        x.meet(9, 0, 2, 5);
+        x.ask(0, 2, 0);
+        Check.due("holder by FEW", x.holder(FEW, 1), 2);
+        Check.due("holder by EARLY", x.holder(EARLY, 1), 1);
+        Check.due("sureness by FEW", x.sureness(FEW, 1), 20);
+        Check.due("way by SUREST", x.way(SUREST, -1), 2);
+        x.drop(1);
+        Check.due("rank 1", x.rank(1), 1);
+        Check.due("rank 2", x.rank(2), 2);
+        Check.due("holder, without 1", x.holder(EARLY, 1), 2);
+        x.ask(1, 0, 0);
+        Check.due("rank 1, the other way", x.rank(1), 0);
+        Check.due("holder, the other way", x.holder(SUREST, 0), 1);
+        x.delay(9);
+        Check.due("reach by another DELAY", x.reach(2), -5);
+        x.renew(2, 0, 99);
+        Check.due("reach at another TIME", x.reach(2), 99);
+        Check.due("by", x.by(1), 3);
+        x.people(3);
+        Check.due("rank 1, no MEETINGS", x.rank(1), -5);
+        Check.due("holder, no MEETINGS", x.holder(EARLY, 0), -5);
     }
 
     private static void surenessOfFiveHands() {
@@ -384,6 +452,12 @@ public final class WaysTest {
         x.drop(0);
         Check.due("POINTS without a WAY", x.told(8), 14);
         Check.due("LEAST CUT without a WAY", x.told(9), 0);
+        x.people(3);
+        x.meet(1, 1, 0, 10);
+        x.meet(2, 0, 2, 10);
+        x.ask(1, 2, 0);
+        Check.due("POINTS, 0 alone", x.told(8), 1);
+        Check.due("LEAST CUT, 0 alone", x.told(9), 1);
     }
 
     private static void leastCutOfTwo() {
