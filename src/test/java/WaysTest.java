@@ -237,8 +237,8 @@ public final class WaysTest {
         Check.due("odds above", x.odds(0), 2);
         Check.due("odds below", x.odds(1), 3);
         x.meet(5, 0, 1, 10);
-        x.meet(6, 2, 1, 10);
-        x.meet(7, 0, 2, 10);
+        x.meet(6, 0, 2, 10);
+        x.meet(7, 2, 1, 10);
         x.ask(0, 1, 0);
         Check.due("by 1, a later one behind it", x.by(1), 0);
         Check.due("by 2, more hands later", x.by(2), 0);
