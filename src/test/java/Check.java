@@ -1,9 +1,18 @@
+import java.io.IOException;
+import java.io.UncheckedIOException;
+import java.nio.file.Files;
+import java.nio.file.Path;
+
 /** Counts answers that are not due, prints each, and ends a test program by them. */
 final class Check {
     static final long NO = Long.MIN_VALUE;
 
+    private static final Path DOCUMENT = Path.of("../shared/DOC.md");
+
     private static int looked;
     private static int wrong;
+    private static String quoted = "";
+    private static String document = "";
 
     private Check() {
     }
@@ -12,7 +21,7 @@ final class Check {
         looked++;
         if (got != want) {
             wrong++;
-            System.out.println(call + " answered " + got + ", due is " + want);
+            System.out.println(quoted + call + " answered " + got + ", due is " + want);
         }
     }
 
@@ -20,9 +29,26 @@ final class Check {
         due(call, isSo ? 1 : 0, 1);
     }
 
+    /** What is looked at from here on is due by these words, which must stand in the document. */
+    static void says(String words) {
+        quoted = "\"" + words + "\": ";
+        due("the document says so", text().contains(words));
+    }
+
+    private static String text() {
+        if (document.isEmpty()) {
+            try {
+                document = Files.readString(DOCUMENT);
+            } catch (IOException e) {
+                throw new UncheckedIOException(e);
+            }
+        }
+        return document;
+    }
+
     static void feed(HandRelay x, String text) {
         for (int i = 0; i < text.length(); i++) {
-            x.feed(text.charAt(i));
+            due("feed of \"" + text + "\" isn't refused", x.feed(text.charAt(i)) >= 0);
         }
     }
 

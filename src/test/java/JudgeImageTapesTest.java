@@ -228,13 +228,10 @@ public final class JudgeImageTapesTest {
         }
         Check.due("nothing came", x.item(0, 0, 1), -11);
         for (int sort = BYTES; sort <= BOOLEANS; sort++) {
-            Check.due("sort " + sort, x.tape(sort, sort, 60), 1);
-            for (int i = 0; i < 60; i++) {
-                Check.due("a nought", x.peek(sort, i), 0);
-                x.item(sort, i, 1);
-            }
-            Check.due("no more", x.peek(sort, 60), Check.NO);
+            sixty(sort);
         }
+        x.tape(3, LONGS, 60);
+        x.item(3, 59, 1);
         Check.due("anew", x.tape(3, LONGS, 60), 1);
         Check.due("all 0 again", x.peek(3, 59), 0);
         Check.due("empty", x.tape(3, LONGS, 0), 1);
@@ -248,6 +245,17 @@ public final class JudgeImageTapesTest {
         x.item(5, 2, 9);
         Check.due("a refused one", x.tape(5, BYTES, 61), -2);
         Check.due("changes nothing", x.peek(5, 2), 9);
+    }
+
+    private static void sixty(int sort) {
+        HandRelay x = new HandRelay();
+        Check.due("sort " + sort, x.tape(sort, sort, 60), 1);
+        for (int i = 0; i < 60; i++) {
+            Check.due("a nought", x.peek(sort, i), 0);
+            Check.due("item " + i, x.item(sort, i, 1), 1);
+            Check.due("a one", x.peek(sort, i), 1);
+        }
+        Check.due("no more", x.peek(sort, 60), Check.NO);
     }
 
     private static void item() {
