@@ -261,6 +261,16 @@ public final class BoundsSeenEventsTest {
             event 2 4
             after 0..2 -> -5 -5 0
             told 1 -> 3""");
+        // The first and the last of all fourteen are of PERSON 2, and so are none of the others.
+        Script.shows("2 all MEETINGS of PERSON n are DROPPED", """
+            meet 0 0 2 50 | meet 1..12 0 1 50 | meet 99 1 2 50
+            ask 0 2 0 -> 13
+            after 0..2 -> 0 1 13
+            event 2 2
+            after 0..2 -> -5 -5 0
+            ask 0 1 0 -> 13
+            after 0..2 -> 1 1 12
+            told 1 -> 14""");
     }
 
     private static void book() {
@@ -292,7 +302,8 @@ public final class BoundsSeenEventsTest {
     }
 
     private static void looked() {
-        Script.shows("LOOKED at: the number (from 0) of the first of these rows that isn't REACH (-5: none).", """
+        Script.shows("A BOOK told by hand: PEOPLE, TIMES (8 rows at most): LOOKED at: the number (from 0) of the first of these rows that"
+            + " isn't REACH (-5: none).", """
             looked -> -5
             meet 5 0 1 50
             book 1 5,5,5,5,5,5,5 | looked -> -5
@@ -313,5 +324,12 @@ public final class BoundsSeenEventsTest {
             ask 0 1 99 | renew 0 0 99
             book 0,1 99 | looked -> -5
             ask 0 1 0 | looked -> 0""");
+        Script.shows("LOOKED at; -5.", """
+            looked -> -5
+            book 0,0,0 0 | looked -> -5
+            book 1 0 | looked -> 3
+            people 3 | looked -> -5
+            book 0 1 | looked -> 0
+            book 0 0 | looked -> 0""");
     }
 }

@@ -23,6 +23,7 @@ public final class BoundsTapesTest {
         shift();
         shiftAsTheyWere();
         hostsOrder();
+        theLastCall();
         Check.end();
     }
 
@@ -77,6 +78,20 @@ public final class BoundsTapesTest {
             item 0 2 5 | judge 0 0 -> 2
             item 0 0 4 | judge 0 0 -> 2
             renew 4 0 2 | item 0 1 4 | judge 0 0 -> 1""");
+        // A number that was given ahead of people, and 14, which never is.
+        Script.shows("no such MEETING", """
+            meet 5,6,7 0 1 50
+            tape 0 0 1 | item 0 0 2 | judge 0 0 -> -5
+            people 3 | judge 0 0 -> 0
+            meet 1,2 0 2 50 | judge 0 0 -> 0
+            image -> 2
+            meet 8 0 1 50 | judge 0 0 -> -5
+            undo -> 2
+            judge 0 0 -> 0
+            meet 0..11 0 1 50
+            item 0 0 13 | judge 0 0 -> -5
+            item 0 0 14 | judge 0 0 -> 0
+            drop 13 | item 0 0 13 | judge 0 0 -> 0""");
         Script.shows("(counted from 0 from that place on)", IN_A_ROW + """
             item 0 4 1 | item 0 3 0
             judge 0 3,4 -> 102 0
@@ -164,6 +179,7 @@ public final class BoundsTapesTest {
             see 0 0,1,2,3,4,5 false | event 3 0,1,2,3,4,5,6,99 | book 2 99,99,99,99,99,99,99,98
             image -> 1
             people 6 | delay 0 | meet 5 0 1 50 | ask 5 4 3
+            see 5 99,98,97,96,95,94 true | event 1 9,8,7,6,5,4,3,2 | book 5 1,2,3,4,5,6,7,8
             undo -> 1
             told 0..7 -> 4 1 9 3 2 98 1 99
             told 11 -> 2
@@ -418,5 +434,14 @@ public final class BoundsTapesTest {
             undo -> -3
             see 0 0,0,0,0,0,0 true
             see 0 0 true -> -4""");
+    }
+
+    private static void theLastCall() {
+        StringBuilder calls = new StringBuilder("people 6 | delay 0 | tape 5 3 60\n");
+        for (int k = 4; k < 510; k++) {
+            calls.append(k < 18 ? "meet 9 0 5 50\n" : "people 7 -> BAD\n");
+        }
+        Script.shows("An object is used for at most 512 calls after it has been made", calls
+            + "ask 0 5 9 -> 14\n" + "item 5 59 7 -> 1\n" + "peek 5 59 -> 7\n");
     }
 }

@@ -86,6 +86,12 @@ public final class BoundsTextTest {
     }
 
     private static void clauses() {
+        Script.shows("people n; meet TIME i j SURE; drop MEETING; delay DELAY; ask FROM TO START.", """
+            text people 6;meet 1 2 3 4;meet 5 4 3 2;drop 0;delay 9;ask 4 3 2
+            read -> 6
+            told 0..6 -> 6 1 9 4 3 2 1
+            meeting 0 0 -> NOTHING
+            meeting 1 0..3 -> 5 4 3 2""");
         Check.says("CLAUSES, 1 to 12, with ; between (none behind the twelfth)");
         fault("", 0);
         fault(";", 0);

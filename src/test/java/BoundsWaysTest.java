@@ -55,6 +55,25 @@ public final class BoundsWaysTest {
     }
 
     private static void whoHoldsIt() {
+        Script.shows("who isn't FROM there HOLDS it then", """
+            meet 1 0 1 50 | meet 3 2 1 50
+            ask 0 1 0 -> 1
+            holder 0..2 0,1,2 -> 0 1 NONE 0 1 NONE 0 1 NONE
+            ask 1 0 0 -> 1
+            holder 0..2 0,1,2 -> 1 0 NONE 1 0 NONE 1 0 NONE
+            ask 1 2 0 -> 1
+            holder 0 1 -> 2""");
+        Script.shows("HANDS: how many MEETINGS. ARRIVAL: TIME of the last one.", """
+            people 6 | meet 0 0 1 50 | meet 1 1 2 50 | meet 2 2 3 50 | meet 3 3 4 50 | meet 99 4 5 50
+            ask 0 1 0 -> 1
+            way 0..2 -2 -> 0
+            way 0..2 -1 -> 1
+            ask 0 5 0 -> 1
+            way 0..2 -2 -> 99
+            way 0..2 -1 -> 5
+            ask 0 4 0 -> 1
+            way 0..2 -2 -> 3
+            way 0..2 -1 -> 4""");
         Script.shows("nobody HOLDS it twice (FROM HOLDS it at first)", """
             people 4
             meet 1 0 1 50 | meet 3 1 0 50 | meet 5 0 2 50
@@ -225,7 +244,8 @@ public final class BoundsWaysTest {
     }
 
     private static void wayAndHolder() {
-        Script.shows("k -1: HANDS; k -2: ARRIVAL. BAD: rule; -5: there is no WAY (whatever k is); NONE: k.", """
+        Script.shows("The k-th MEETING (from 0) of THE WAY by a RULE; k -1: HANDS; k -2: ARRIVAL. BAD: rule; -5: there is no WAY (whatever k is);"
+            + " NONE: k.", """
             way -1,3,MIN,MAX -2..1 -> BAD
             way -1,3,MIN,MAX MIN,MAX -> BAD
             way 0..2 -3..2 -> -5
@@ -395,7 +415,14 @@ public final class BoundsWaysTest {
             meet 99 0 1 50
             told 8 -> 0
             drop 6 | ask 5 0 0 -> 0
-            told 8 -> 30""");
+            told 8 -> 30
+            people 6 | meet 1 1 0 50 | meet 3 0 2 50 | meet 1 1 5 50 | meet 3 5 2 50
+            ask 1 2 0 -> 2
+            told 8 -> 0
+            drop 2 -> 3
+            told 8 -> 1
+            drop 0 -> 2
+            told 8 -> 57""");
         Script.shows("LEAST CUT: of all CUTS that of fewest PEOPLE, of several that of least BITS (0: there is no WAY; -5: there"
             + " is no CUT).", """
             told 9 -> 0
@@ -423,7 +450,14 @@ public final class BoundsWaysTest {
     }
 
     private static void told() {
-        Script.shows("10 who has a REACH (BITS), 11 MEETINGS that came. NONE.", """
+        Script.shows("What 0 n, 1 MEETINGS that are there, 2 DELAY, 3 FROM, 4 TO, 5 START, 6 how many WAYS, 7 LATEST (-5), 8 POINTS,"
+            + " 9 LEAST CUT (-5), 10 who has a REACH (BITS), 11 MEETINGS that came. NONE.", """
+            told -1..12 -> NONE 3 0 1 0 1 0 0 -5 4 0 1 0 NONE
+            people 6 | delay 9 | meet 0..13 4 5 50 | drop 0,1 | ask 5 4 2
+            told -1..12 -> NONE 6 12 9 5 4 2 12 13 0 -5 48 14 NONE
+            ask 4 5 99
+            told -1..12 -> NONE 6 12 9 4 5 99 0 13 15 0 16 14 NONE""");
+        Script.shows("10 who has a REACH (BITS), 11 MEETINGS that came.", """
             told -1,12,13,MIN,MAX -> NONE
             people 6
             told 10 -> 1
