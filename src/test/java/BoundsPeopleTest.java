@@ -197,7 +197,8 @@ public final class BoundsPeopleTest {
             renew 0 0 99,0,7 -> 5 99 0
             renew 0 1 1,100,7 -> 50 1 100
             meeting 0 0..3 -> 7 0 1 7""");
-        Script.shows("as they were told), 3 SURE. NONE: what; PLACE: none such came; NOTHING: it is DROPPED.", """
+        Script.shows("Of a MEETING what 0 TIME, 1 the first, 2 the second PERSON (as they were told), 3 SURE. NONE: what; PLACE: none"
+            + " such came; NOTHING: it is DROPPED.", """
             meeting 0 0 -> PLACE
             meet 5 2 1 50 | meet 6 1 2 60 | drop 1
             meeting 0 -1,4,MIN,MAX -> NONE

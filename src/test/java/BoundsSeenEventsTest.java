@@ -44,7 +44,7 @@ public final class BoundsSeenEventsTest {
     }
 
     private static void seenIsReached() {
-        Script.shows("whether it is REACHED by then (REACH is TIME or less; 6 rows at most)", """
+        Script.shows("SEEN told by hand: a PERSON, a TIME, whether it is REACHED by then (REACH is TIME or less; 6 rows at most)", """
             meet 30 0 1 50
             see 1 30 true
             fits 0,1 -> 21 0
@@ -127,6 +127,21 @@ public final class BoundsSeenEventsTest {
             meet 5 0 1 50 | meet 5 1 2 50
             odds -1,2,MIN,MAX -> NO
             odds 0,1 -> 1 2""");
+        // The WAYS that are there still begin at START or later.
+        Script.shows("how likely there is a WAY still", """
+            meet 5 0 1 50 | meet 9 0 1 50 | meet 9 1 2 50
+            ask 0 1 8 -> 1
+            odds 0,1 -> 2 3
+            ask 0 1 5 -> 2
+            odds 0,1 -> 1
+            ask 0 2 5 -> 1
+            odds 0,1 -> 1 3
+            ask 0 2 8 -> 0
+            odds 0,1 -> 0 1
+            delay 0
+            odds 0,1 -> 1 3
+            ask 1 0 8 -> 1
+            odds 0,1 -> 2 3""");
         Script.shows("in lowest terms (NO: no MEETINGS are there)", """
             people 6 | delay 0
             meet 9 0 1 50 | meet 9 1 2 50 | meet 1..12 3 4 50
@@ -216,6 +231,21 @@ public final class BoundsSeenEventsTest {
             event 3 0 | after 0..2 -> 6 1 2
             event 0 2 -> FULL
             told 1,2,5,6 -> 3 1 0 2""");
+        // What happens is that alone: neither DELAY nor START goes with a MEETING, nor any of them with another.
+        Script.shows("what happens (0 MEETING n is DROPPED; 1 DELAY is n; 2 all MEETINGS of PERSON n are DROPPED; 3 START is n;", """
+            people 6 | meet 5 4 5 50 | meet 5 4 5 50 | meet 5 0 1 50 | meet 6 1 2 50 | meet 5 3 4 50 | meet 5 3 5 50
+            ask 0 2 5 -> 1
+            after 0..2 -> 6 2 1
+            event 0 0 | after 0..2 -> 6 2 1
+            event -1 0 | event 0 4 | after 0..2 -> 6 2 1
+            event -1 0 | event 2 3 | after 0..2 -> 6 2 1
+            event -1 0 | event 3 0 | after 0..2 -> 6 2 1
+            event -1 0 | event 1 0 | after 0..2 -> 6 2 1
+            event -1 0 | event 1 2 | after 0..2 -> -5 -5 0
+            renew 3 0 7 | after 0..2 -> 7 2 1
+            event 2 4 | event 0 1 | after 0..2 -> 7 2 1
+            event 3 2 | after 0..2 -> 7 2 1
+            event 3 6 | after 0..2 -> -5 -5 0""");
         // The eighth row matters as the first does.
         Script.shows("8 rows at most): AFTER, behind all of it", """
             meet 5 0 1 50

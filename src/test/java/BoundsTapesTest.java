@@ -78,6 +78,20 @@ public final class BoundsTapesTest {
             item 0 2 5 | judge 0 0 -> 2
             item 0 0 4 | judge 0 0 -> 2
             renew 4 0 2 | item 0 1 4 | judge 0 0 -> 1""");
+        // Whoever has it in whatever order, only who had it already is refused.
+        for (String order : new String[] {"0 1 2 3", "0 2 1 3", "1 0 2 3", "1 2 0 3", "2 0 1 3", "2 1 0 3", "3 2 1 0", "3 1 0 2"}) {
+            String[] p = order.split(" ");
+            String tellAndJudge = """
+                people 4 | meet 1 A B 50 | meet 3 B C 50 | meet 5 C D 50 | meet 5 C B 50 | meet 5 C A 50 | meet 3 B A 50
+                ask A D 0
+                tape 0 0 4 | item 0 1 1 | item 0 2 2
+                judge 0 0 -> -5
+                item 0 2 3 | judge 0 0 -> 2
+                item 0 2 4 | judge 0 0 -> 2
+                item 0 1 5 | judge 0 0 -> 1""";
+            Script.shows("to one who had it already", tellAndJudge.replace("A", p[0]).replace("B", p[1]).replace("C", p[2])
+                .replace("D", p[3]));
+        }
         // A number that was given ahead of people, and 14, which never is.
         Script.shows("no such MEETING", """
             meet 5,6,7 0 1 50
@@ -92,11 +106,18 @@ public final class BoundsTapesTest {
             item 0 0 13 | judge 0 0 -> -5
             item 0 0 14 | judge 0 0 -> 0
             drop 13 | item 0 0 13 | judge 0 0 -> 0""");
-        Script.shows("(counted from 0 from that place on)", IN_A_ROW + """
+        Script.shows("MEETINGS told by a row of bytes, from a place on, one by one, are JUDGED as they hand it on from FROM: the first"
+            + " (counted from 0 from that place on)", IN_A_ROW + """
             item 0 4 1 | item 0 3 0
             judge 0 3,4 -> 102 0
             item 0 4 2
-            judge 0 3,4 -> 1 0""");
+            judge 0 3,4 -> 1 0
+            ask 2 0 5
+            judge 0 3,4 -> 0 101
+            ask 3 0 5
+            judge 0 3,4 -> 0 101
+            ask 3 2 5
+            judge 0 3,4 -> 0 -5""");
     }
 
     private static void judgeEnds() {
@@ -441,7 +462,7 @@ public final class BoundsTapesTest {
         for (int k = 4; k < 510; k++) {
             calls.append(k < 18 ? "meet 9 0 5 50\n" : "people 7 -> BAD\n");
         }
-        Script.shows("An object is used for at most 512 calls after it has been made", calls
+        Script.shows("An object is used for at most 512 calls after it has been made; what later calls answer is free.", calls
             + "ask 0 5 9 -> 14\n" + "item 5 59 7 -> 1\n" + "peek 5 59 -> 7\n");
     }
 }

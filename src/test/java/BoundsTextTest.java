@@ -92,7 +92,7 @@ public final class BoundsTextTest {
             told 0..6 -> 6 1 9 4 3 2 1
             meeting 0 0 -> NOTHING
             meeting 1 0..3 -> 5 4 3 2""");
-        Check.says("CLAUSES, 1 to 12, with ; between (none behind the twelfth)");
+        Check.says("A set-up is read from THE TEXT (bytes, 100 at most): CLAUSES, 1 to 12, with ; between (none behind the twelfth)");
         fault("", 0);
         fault(";", 0);
         reads("delay 1", 1);

@@ -20,7 +20,7 @@ public final class BoundsWaysTest {
     }
 
     private static void startAndDelay() {
-        Script.shows("FROM is of the first one, whose TIME is START or more", """
+        Script.shows("A WAY: MEETINGS, one behind the other: FROM is of the first one, whose TIME is START or more", """
             meet 5 0 1 50
             ask 0 1 0,4,5,6,99 -> 1 1 1 0 0
             ask 1 0 0,4,5,6,99 -> 1 1 1 0 0
@@ -86,6 +86,18 @@ public final class BoundsWaysTest {
             meet 0..13 0 1 50
             ask 0 1 0 -> 14
             ask 1 0 0 -> 14""");
+        // Back to FROM and on from there, whoever FROM is.
+        for (int from = 0; from < 6; from++) {
+            String tellAndAsk = """
+                people 6 | meet 1 FROM OTHER 50 | meet 3 OTHER FROM 50 | meet 5 TO FROM 50
+                ask FROM OTHER 0 -> 2
+                ask FROM TO 0 -> 1
+                way 0..2 0 -> 2
+                tape 0 0 3 | item 0 1 1 | item 0 2 2
+                judge 0 0,1,2 -> 1 1 -5""";
+            Script.shows("nobody HOLDS it twice (FROM HOLDS it at first)", tellAndAsk.replace("FROM", "" + from)
+                .replace("OTHER", "" + (from + 1) % 6).replace("TO", "" + (from + 2) % 6));
+        }
         Script.shows("TO HOLDS it at last, not ahead of that", """
             people 4
             meet 1 0 1 50 | meet 3 1 2 50 | meet 5 2 3 50 | meet 7 3 1 50
@@ -156,7 +168,7 @@ public final class BoundsWaysTest {
     }
 
     private static void rules() {
-        Script.shows("0 EARLY: that of least ARRIVAL, of several that of fewest HANDS", """
+        Script.shows("THE WAY by a RULE: of all WAYS 0 EARLY: that of least ARRIVAL, of several that of fewest HANDS", """
             meet 1 0 1 50 | meet 8 1 2 50 | meet 9 0 2 100
             ask 0 2 0 -> 2
             way 0 -2..1 -> 8 2 0 1
@@ -391,6 +403,21 @@ public final class BoundsWaysTest {
             cut 0,2,4,6 -> 0
             ask 1 2 0 -> 0
             cut 0,1,8,9 -> 1""");
+        // Nobody hands it on who may not HOLD it, whoever of the two was told first.
+        for (String first : new String[] {"0 1", "1 0"}) {
+            for (String second : new String[] {"1 2", "2 1"}) {
+                String tellAndAsk = """
+                    meet 1 FIRST 50 | meet 3 SECOND 50
+                    ask 0 2 0 -> 1
+                    cut 0,2 -> 0 1
+                    told 8,9 -> 2
+                    renew 0 0 5
+                    ask 2 0 0 -> 1
+                    cut 0,2 -> 0 1""";
+                Script.shows("there is no WAY in which none of them HOLDS it",
+                    tellAndAsk.replace("FIRST", first).replace("SECOND", second));
+            }
+        }
         Script.shows("Whether a set (BITS) is a CUT (1, 0). BAD: others than PEOPLE, FROM or TO in it, below 0.", """
             people 6 | ask 2 4 0
             cut 0,1,2,8,32,43 -> 1
@@ -439,6 +466,28 @@ public final class BoundsWaysTest {
             told 9 -> 24
             meet 1 0 1 50
             told 9 -> -5""");
+        // One PERSON is fewer than two of less BITS, two are fewer than three, also where 0 is one of them.
+        Script.shows("of all CUTS that of fewest PEOPLE, of several that of least BITS", """
+            people 5 | meet 1 0 1,2 50 | meet 3 3 1,2 50 | meet 5 3 4 50
+            ask 0 4 0 -> 2
+            cut 2,4,6,8 -> 0 0 1 1
+            told 8,9 -> 8 8
+            people 6 | meet 1 0 1,2,3 50 | meet 3 4 1,2 50 | meet 4 3 5 50 | meet 5 4 5 50
+            ask 0 5 0 -> 3
+            cut 8,14,16,24 -> 0 1 0 1
+            told 8,9 -> 0 24
+            people 6 | meet 1 4 1,2 50 | meet 3 0 1,2 50 | meet 5 0 5 50
+            ask 4 5 0 -> 2
+            cut 1,6 -> 1
+            told 8,9 -> 1 1
+            people 6 | meet 1 4 1,2,3 50 | meet 3 0 1,2 50 | meet 4 3 5 50 | meet 5 0 5 50
+            ask 4 5 0 -> 3
+            cut 1,8,9,14 -> 0 0 1 1
+            told 8,9 -> 0 9
+            people 6 | meet 1 4 0,1,2 50 | meet 3 3 1,2 50 | meet 3 0 5 50 | meet 5 3 5 50
+            ask 4 5 0 -> 3
+            cut 7,8,9 -> 1 0 1
+            told 8,9 -> 0 9""");
         Script.shows("of fewest PEOPLE", """
             people 6 | meet 1 0 1,2,3,4 50 | meet 3 5 1,2,3,4 50
             ask 0 5 0 -> 4

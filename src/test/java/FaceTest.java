@@ -1,11 +1,17 @@
+import java.io.IOException;
 import java.lang.reflect.Constructor;
 import java.lang.reflect.Field;
 import java.lang.reflect.Method;
 import java.lang.reflect.Modifier;
+import java.nio.file.Files;
+import java.nio.file.Path;
+import java.util.ArrayList;
 import java.util.Arrays;
 import java.util.List;
 import java.util.Set;
 import java.util.TreeSet;
+import java.util.regex.Matcher;
+import java.util.regex.Pattern;
 
 /** The public face as the document gives it, and no more (LANGUAGE.md 1 and 5). */
 public final class FaceTest {
@@ -19,13 +25,56 @@ public final class FaceTest {
         "int count(int)", "int tape(int,int,int)", "int item(int,int,long)", "long peek(int,int)",
         "int shift(int,int,int,int,int)");
 
-    public static void main(String[] args) {
+    private static final Path DOCUMENT = Path.of("../shared/DOC.md");
+    private static final Path SOURCE = Path.of("src/main/java/HandRelay.java");
+
+    public static void main(String[] args) throws IOException {
+        String document = Files.readString(DOCUMENT);
+        String source = Files.readString(SOURCE);
+        asTheDocumentTells(document, source);
+        asTheInterfaceSays(document, source);
         constants();
         itself();
         methods();
         fields();
         classesInside();
         Check.end();
+    }
+
+    /** The heads of the document's face are those of the class, to the letter and one behind the other. */
+    private static void asTheDocumentTells(String document, String source) {
+        int from = document.indexOf("```java\n") + 8;
+        String face = document.substring(from, document.indexOf("```", from));
+        List<String> told = matches(face, "public [^;{]*(?=;| \\{)");
+        List<String> found = matches(source, "(?m)(?<=^| {4})public [^;{]*(?=;| \\{)");
+        Check.due("heads that the document tells", told.size(), 4 + FACE.size());
+        Check.due("heads of the class: " + found, found.equals(told));
+        Check.says("`NO = Long.MIN_VALUE`: There is no such number.");
+        Check.due("NO", new HandRelay().peek(0, 0), Long.MIN_VALUE);
+    }
+
+    /** What the interface says ahead of some calls stands ahead of them, and of no others. */
+    private static void asTheInterfaceSays(String document, String source) {
+        Matcher m = Pattern.compile("(?m)^Ahead of the calls (.*) the interface says: ---- (.*)\\.$").matcher(document);
+        String[] parts = source.split("(?m)^ {4}// ---- ");
+        int part = 0;
+        while (m.find()) {
+            part++;
+            String here = part < parts.length ? parts[part] : "";
+            Check.due("---- " + m.group(2), here.startsWith(m.group(2) + "\n"));
+            List<String> calls = matches(m.group(1), "\\w+(?=`)");
+            Check.due("the calls behind it: " + calls, matches(here, "(?<=public (?:int|long) )\\w+(?=\\()").equals(calls));
+        }
+        Check.due("the interface's parts", part, 5);
+    }
+
+    private static List<String> matches(String text, String pattern) {
+        List<String> all = new ArrayList<>();
+        Matcher m = Pattern.compile(pattern).matcher(text);
+        while (m.find()) {
+            all.add(m.group());
+        }
+        return all;
     }
 
     private static void constants() {

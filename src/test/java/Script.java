@@ -4,6 +4,7 @@ import java.util.ArrayList;
 import java.util.HashMap;
 import java.util.List;
 import java.util.Map;
+import java.util.Set;
 
 /**
  * Calls told as text, on one new object. A line (or a part of one, between bars) is a call and its numbers, and
@@ -34,6 +35,11 @@ final class Script {
     static void shows(String words, String script) {
         Check.says(words);
         new Script().tell(script);
+    }
+
+    /** The names of all calls. */
+    static Set<String> names() {
+        return CALLS.keySet();
     }
 
     Script tell(String script) {
