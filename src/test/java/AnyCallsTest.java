@@ -1,6 +1,5 @@
 import java.lang.reflect.InvocationTargetException;
 import java.lang.reflect.Method;
-import java.lang.reflect.Modifier;
 import java.util.ArrayList;
 import java.util.Comparator;
 import java.util.List;
@@ -18,26 +17,21 @@ public final class AnyCallsTest {
     private static final long[] LONG_EDGES = {Long.MIN_VALUE, Long.MIN_VALUE + 1, 1L << 32, -1L << 31, Long.MAX_VALUE};
     private static final String LETTERS = "people meet drop delay ask ;0123";
 
-    private static long seed;
+    private static Numbers numbers;
 
     public static void main(String[] args) {
         List<Method> calls = calls();
         Check.due("calls", calls.size(), 35);
         for (int o = 0; o < OBJECTS; o++) {
-            seed = o + 1;
+            numbers = new Numbers(o + 1);
             run(calls, "object " + o);
         }
         Check.end();
     }
 
     private static List<Method> calls() {
-        List<Method> all = new ArrayList<>();
-        for (Method m : HandRelay.class.getDeclaredMethods()) {
-            if (Modifier.isPublic(m.getModifiers())) {
-                all.add(m);
-            }
-        }
-        // The machine may name them in any order, and the runs should be the same each time.
+        List<Method> all = new ArrayList<>(Script.calls());
+        // The machine may tell them in any order, and the runs should be the same each time.
         all.sort(Comparator.comparing(Method::getName));
         return all;
     }
@@ -84,24 +78,17 @@ public final class AnyCallsTest {
             if (sorts[k] == boolean.class) {
                 all[k] = upTo(2) == 0;
             } else if (sorts[k] == long.class) {
-                all[k] = isSmall ? upTo(14) : upTo(2) == 0 ? LONG_EDGES[upTo(LONG_EDGES.length)] : next();
+                all[k] = isSmall ? upTo(14) : upTo(2) == 0 ? LONG_EDGES[upTo(LONG_EDGES.length)] : numbers.next();
             } else if (m.getName().equals("feed") && isSmall) {
                 all[k] = (int) LETTERS.charAt(upTo(LETTERS.length()));
             } else {
-                all[k] = isSmall ? upTo(6) : upTo(3) > 0 ? EDGES[upTo(EDGES.length)] : (int) next();
+                all[k] = isSmall ? upTo(6) : upTo(3) > 0 ? EDGES[upTo(EDGES.length)] : (int) numbers.next();
             }
         }
         return all;
     }
 
-    private static long next() {
-        seed += 0x9e3779b97f4a7c15L;
-        long z = (seed ^ seed >>> 30) * 0xbf58476d1ce4e5b9L;
-        z = (z ^ z >>> 27) * 0x94d049bb133111ebL;
-        return z ^ z >>> 31;
-    }
-
     private static int upTo(int n) {
-        return (int) Long.remainderUnsigned(next(), n);
+        return numbers.upTo(n);
     }
 }

@@ -4,7 +4,7 @@ public final class ModelTest {
         "people ", "meet ", "drop ", "delay ", "ask ", ";", " ", "0", "1", "2", "5", "9", "10", "77", "100", "x", "meet", "ask",
     };
 
-    private static long seed;
+    private static Numbers numbers;
     private static HandRelay x;
     private static Model y;
     private static String run;
@@ -13,7 +13,7 @@ public final class ModelTest {
         int runs = args.length > 0 ? Integer.parseInt(args[0]) : 400;
         long first = args.length > 1 ? Long.parseLong(args[1]) : 1;
         for (int r = 0; r < runs; r++) {
-            seed = (first + r) * 0x9e3779b97f4a7c15L;
+            numbers = new Numbers((first + r) * 0x9e3779b97f4a7c15L);
             x = new HandRelay();
             y = new Model();
             run = "run " + (first + r);
@@ -227,7 +227,7 @@ public final class ModelTest {
                 int n = upTo(3) == 0 ? near(62) : upTo(9);
                 due("tape " + tape + " " + sort + " " + n, x.tape(tape, sort, n), y.tape(tape, sort, n));
             }
-            case 32, 33 -> item(tape, near(9), upTo(3) == 0 ? next() : upTo(14));
+            case 32, 33 -> item(tape, near(9), upTo(3) == 0 ? numbers.next() : upTo(14));
             case 34, 35 -> due("peek " + tape, x.peek(tape, 0), y.peek(tape, 0));
             case 36 -> peek(tape, near(61));
             case 37, 38 -> shift(tape, near(5), other, near(5), near(5));
@@ -275,15 +275,8 @@ public final class ModelTest {
 
     // ---- numbers that are the same in each run
 
-    private static long next() {
-        seed += 0x9e3779b97f4a7c15L;
-        long z = (seed ^ seed >>> 30) * 0xbf58476d1ce4e5b9L;
-        z = (z ^ z >>> 27) * 0x94d049bb133111ebL;
-        return z ^ z >>> 31;
-    }
-
     private static int upTo(int n) {
-        return (int) Long.remainderUnsigned(next(), n);
+        return numbers.upTo(n);
     }
 
     private static int between(int least, int greatest) {

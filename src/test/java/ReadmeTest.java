@@ -1,4 +1,5 @@
 import java.io.IOException;
+import java.lang.reflect.Method;
 import java.nio.file.Files;
 import java.nio.file.Path;
 import java.util.Set;
@@ -48,8 +49,8 @@ public final class ReadmeTest {
                 named.add(name.group(1));
             }
         }
-        for (String call : Script.names()) {
-            Check.due("README names " + call, named.contains(call));
+        for (Method call : Script.calls()) {
+            Check.due("README names " + call.getName(), named.contains(call.getName()));
         }
     }
 }

@@ -1,10 +1,10 @@
 import java.lang.reflect.Method;
 import java.lang.reflect.Modifier;
 import java.util.ArrayList;
+import java.util.Collection;
 import java.util.HashMap;
 import java.util.List;
 import java.util.Map;
-import java.util.Set;
 
 /**
  * Calls told as text, on one new object. A line (or a part of one, between bars) is a call and its numbers, and
@@ -37,9 +37,9 @@ final class Script {
         new Script().tell(script);
     }
 
-    /** The names of all calls. */
-    static Set<String> names() {
-        return CALLS.keySet();
+    /** All calls of the class. */
+    static Collection<Method> calls() {
+        return CALLS.values();
     }
 
     Script tell(String script) {
