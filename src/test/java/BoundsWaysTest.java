@@ -325,6 +325,15 @@ public final class BoundsWaysTest {
             by 0..5 -> -5 7 7 6 6 6
             renew 5 0 8
             by 0..5 -> -5 7 7 7 7 7""");
+        // Earlier by 1 is earlier, whichever came first.
+        Script.shows("BY k HANDS: the least ARRIVAL of WAYS", """
+            meet 8 0 2 50 | meet 7 0 2 50 | meet 8 2 0 50 | meet 5 1 2 50 | meet 1 0 1 50 | meet 4 1 2 50
+            ask 0 2 0 -> 5
+            by 0..3 -> -5 7 4 4
+            drop 1 | by 1,2 -> 8 4
+            drop 5 | by 1,2 -> 8 5
+            meet 6 2 0 50 | by 1,2 -> 6 5
+            renew 3 0 7 | by 1,2 -> 6 6""");
     }
 
     private static void agendaAndRank() {
